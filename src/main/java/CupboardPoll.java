@@ -553,13 +553,13 @@ public final class CupboardPoll {
         private int next;
         private Kind kind = Kind.END;
         private int error;
+        private int errorToken;
         private int errorAt = NONE;
 
         int read(Tape tape) {
             tokens.readFrom(tape);
             draft.empty();
             error = 0;
-            errorAt = NONE;
             next = 0;
             kind = tokens.kindAt(0);
             for (int n = 0; n < TOKENS && kind != Kind.END && error != 1; n++) {
@@ -572,6 +572,7 @@ public final class CupboardPoll {
                 }
                 take(Kind.SEMICOLON);
             }
+            errorAt = error == 0 ? NONE : tokens.startAt(errorToken);
             return error;
         }
 
@@ -825,7 +826,7 @@ public final class CupboardPoll {
                 kind = tokens.kindAt(next);
             } else {
                 error = 1;
-                errorAt = tokens.startAt(next);
+                errorToken = next;
                 kind = Kind.BAD;
             }
         }
@@ -834,7 +835,7 @@ public final class CupboardPoll {
         private void report(int number) {
             if (error == 0) {
                 error = number;
-                errorAt = tokens.startAt(next);
+                errorToken = next;
             }
         }
     }
@@ -1093,8 +1094,8 @@ public final class CupboardPoll {
             }
             int second = 0;
             for (int leader = 0; leader < LABELS; leader++) {
-                if (leader != first) {
-                    second = Math.max(second, pooled[leader]);
+                if (leader != first && pooled[leader] > second) {
+                    second = pooled[leader];
                 }
             }
             margin = most - second;

@@ -11,6 +11,7 @@ final class BookTest {
         promise2();
         promise3();
         promise4();
+        promise4ManyTimes();
         promise5();
         tokens();
         tokenCount();
@@ -143,6 +144,31 @@ final class BookTest {
         twice.teach();
         Check.same("a label follows none at first, also anew", twice.leaderOf(1), 1);
         Check.same("labels without a number behind holds have no beans", twice.beansIn(0, 1), 0);
+    }
+
+    /** No book may count what another one told, and one with an error even less. */
+    private static void promise4ManyTimes() {
+        String full = LID + many("when 1=1(shake leave)", 24) + ";";
+        String late = "label a;label b;" + full;
+        CupboardPoll poll = new CupboardPoll();
+        for (int n = 0; n < 6; n++) {
+            Books.write(poll, full);
+            Check.same("teach() of a full book, time " + n, poll.teach(), 0);
+            Check.same("ruleOfLid(0) of it", poll.ruleOfLid(0), 0);
+            Check.same("pass(1) with it", poll.pass(1), 2);
+            Books.write(poll, full + "label a;");
+            Check.same("teach() of a full book with an error, time " + n, poll.teach(), 2);
+            Check.same("errorAt() of it", poll.errorAt(), full.length() + 6);
+            Check.same("pass(1) with the one before", poll.pass(1), 2);
+            Check.same("days() then", poll.days(), 2);
+        }
+        Books.write(poll, late);
+        Check.same("teach() of a book that is wrong early", poll.teach(), 2);
+        Check.same("errorAt() of it", poll.errorAt(), 22);
+        Books.write(poll, "");
+        Check.same("teach() of an empty tape", poll.teach(), 0);
+        Check.same("errorAt() of it", poll.errorAt(), -1);
+        Check.same("pass(1) with it", poll.pass(1), 0);
     }
 
     private static void promise5() {

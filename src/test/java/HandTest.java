@@ -11,6 +11,7 @@ final class HandTest {
         promise29();
         promise30();
         promise31();
+        promise31OverAll();
         promise32();
         Check.finish();
     }
@@ -117,6 +118,25 @@ final class HandTest {
         }
         Check.fails("join(4, 4)", INDEX, () -> poll.join(4, 4));
         Check.fails("join(0, 4)", INDEX, () -> poll.join(0, 4));
+    }
+
+    private static void promise31OverAll() {
+        String book = "label a;label b;label c;label d;label e;label f;jar j seats 1 by most holds 1;";
+        CupboardPoll poll = Books.taught(book + "lid l on j for f when 1=1(join a);");
+        for (int label = 0; label < 5; label++) {
+            Check.same("join over others", poll.join(label, label + 1), label + 1);
+        }
+        Check.same("leaderOf(0) over all others", poll.leaderOf(0), 5);
+        for (int to = 0; to < 6; to++) {
+            int follower = to;
+            Check.fails("join of one that follows over others", STATE, () -> poll.join(5, follower));
+        }
+        Check.same("pass: join of one that follows over all others", poll.pass(1), 1);
+        Check.same("leaderOf(5) then", poll.leaderOf(5), 5);
+        Check.same("alliances() then", poll.alliances(), 1);
+        poll.leave(4);
+        Check.same("pass: join of one that does not follow any more", poll.pass(1), 1);
+        Check.same("leaderOf(5) then", poll.leaderOf(5), 4);
     }
 
     private static void promise32() {

@@ -18,6 +18,7 @@ final class LidsTest {
         hopAndShake();
         joinAndLeave();
         turnsInOrder();
+        allRulesAndActs();
         promise33();
         Check.finish();
     }
@@ -232,6 +233,31 @@ final class LidsTest {
         Check.same("seats ahead", seats.ruleOfLid(1), -1);
         // jar j is b's then: 38 to 37
         Check.same("seats are counted as the turn comes", seats.pass(1), 2);
+    }
+
+    private static void allRulesAndActs() {
+        StringBuilder rules = new StringBuilder("lid l on j for b ");
+        for (int day = 0; day < 23; day++) {
+            rules.append("when day=").append(day).append("(win 1 from a)");
+        }
+        CupboardPoll poll = with(rules + ";lid o on k for a when day=23(hop m);");
+        Check.same("ruleOfLid(0), the first of 24", poll.ruleOfLid(0), 0);
+        poll.pass(22);
+        Check.same("ruleOfLid(0), the 23rd of 24", poll.ruleOfLid(0), 22);
+        Check.same("ruleOfLid(1) ahead of its day", poll.ruleOfLid(1), -1);
+        poll.pass(1);
+        Check.same("beansIn behind 23 rules", poll.beansIn(0, 0), 17);
+        Check.same("ruleOfLid(1), the 24th of 24", poll.ruleOfLid(1), 0);
+        Check.same("pass of the 24th rule", poll.pass(1), 1);
+        Check.same("jarOfLid(1) behind the 24th rule", poll.jarOfLid(1), 2);
+        StringBuilder acts = new StringBuilder("lid l on j for b when 1=1(");
+        for (int act = 0; act < 59; act++) {
+            acts.append("win 1 from c ");
+        }
+        CupboardPoll busy = with(acts + "hop k);");
+        Check.same("pass with 60 acts", busy.pass(1), 60);
+        Check.same("beansIn behind 60 acts", busy.beansIn(0, 1), 55);
+        Check.same("jarOfLid(0) behind the 60th act", busy.jarOfLid(0), 1);
     }
 
     private static void promise33() {

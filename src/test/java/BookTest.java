@@ -1,10 +1,7 @@
 /** Promises 1 to 5: the tape, and what is a book. */
-final class BookTest {
+final class BookTest extends BookChecks {
     private static final Class<IllegalStateException> STATE = IllegalStateException.class;
     private static final Class<IllegalArgumentException> ARGUMENT = IllegalArgumentException.class;
-    private static final String A = "label a;";
-    private static final String AJ = "label a;jar j seats 1 by most holds 9;";
-    private static final String LID = AJ + "lid l on j for a ";
 
     public static void main(String[] args) {
         promise1();
@@ -24,27 +21,6 @@ final class BookTest {
         numbers();
         orderOfErrors();
         Check.finish();
-    }
-
-    /** Teaches the text; the error and where it is. */
-    private static void reads(String text, int error, int at) {
-        CupboardPoll poll = new CupboardPoll();
-        Books.write(poll, text);
-        String what = "\"" + text.replace("\n", "\\n") + "\"";
-        Check.same("teach() of " + what, poll.teach(), error);
-        Check.same("errorAt() of " + what, poll.errorAt(), at);
-    }
-
-    private static void isBook(String text) {
-        reads(text, 0, -1);
-    }
-
-    private static String many(String text, int times) {
-        StringBuilder all = new StringBuilder();
-        for (int n = 0; n < times; n++) {
-            all.append(text);
-        }
-        return all.toString();
     }
 
     private static void promise1() {

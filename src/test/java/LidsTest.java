@@ -121,6 +121,19 @@ final class LidsTest {
         holds("1=1 and 1=1 and 1=2", false);
         holds("1=2 or 1=2", false);
         holds("1=1 and 1=1", true);
+        // what holds does so in one way, whichever sign or word tells it
+        String[] kinds = {"1<2", "2>1", "1=1", "not 1=2", "first a", "allied b", "[1<2 or 1=2]", "[1=1 and 2>1]"};
+        String[] others = {"2<1", "1>2", "1=2", "not 1=1", "first b", "allied a", "[1=2 or 2<1]", "[1=1 and 1>2]"};
+        for (int one = 0; one < kinds.length; one++) {
+            for (int other = 0; other < kinds.length; other++) {
+                holds(kinds[one] + " and " + kinds[other], true);
+                holds(others[one] + " and " + kinds[other], false);
+                holds(kinds[one] + " and " + others[other], false);
+                holds(kinds[one] + " or " + others[other], true);
+                holds(others[one] + " or " + kinds[other], true);
+                holds(others[one] + " or " + others[other], false);
+            }
+        }
     }
 
     private static void wrappingValues() {

@@ -69,10 +69,33 @@ final class HandTest {
         CupboardPoll single = Books.taught("label a;jar j seats 1 by most holds 77;");
         Check.same("shake of one label", single.shake(0), 0);
         holds("shake of one label", single, 0, 77);
+        shakeKeepsAllBeans();
         for (int no : NO_NUMBERS) {
             Check.fails("shake, no jar", INDEX, () -> poll.shake(no));
         }
         Check.fails("shake(2)", INDEX, () -> poll.shake(2));
+    }
+
+    private static void shakeKeepsAllBeans() {
+        String labels = "";
+        String beans = "";
+        for (int count = 1; count <= 6; count++) {
+            labels += "label " + (char) ('a' + count - 1) + ";";
+            beans += (count == 1 ? "" : ",") + 10 * count;
+            CupboardPoll poll = Books.taught(labels + "jar j seats 9 by quota holds " + beans
+                    + ";lid l on j for a when 1=1(shake);");
+            int turnout = poll.turnout(0);
+            for (int n = 0; n < 20; n++) {
+                poll.shake(0);
+                poll.pass(1);
+                Check.same("turnout behind shakes with " + count + " labels", poll.turnout(0), turnout);
+            }
+            int held = 0;
+            for (int label = 0; label < count; label++) {
+                held += poll.beansOf(label);
+            }
+            Check.same("all beans behind shakes with " + count + " labels", held, turnout);
+        }
     }
 
     private static void promise30() {
